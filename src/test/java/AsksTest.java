@@ -7,6 +7,7 @@ public final class AsksTest {
         ofGloves();
         isWhat();
         book();
+        lateFines();
         foretold();
         firstFine();
         free();
@@ -101,6 +102,24 @@ public final class AsksTest {
         x.undo();
         check.due("as ahead of the last day", x.book(0, 0), 4);
         check.due("its last", x.book(29, 2), 69);
+    }
+
+    private static void lateFines() {
+        LeftGlove x = new LeftGlove();
+        for (int i = 0; i < 7; i++) {
+            x.one(5, 9999);
+        }
+        x.bargain(6, 0, 9, 0, 0);
+        Check.text(x, "fine if day>9997 then 99 else 0 end;");
+        x.by(0);
+        for (int i = 0; i < 166; i++) {
+            x.day(60);
+        }
+        x.day(39);
+        check.due("one fine", x.book(-1, 0), 1);
+        check.due("on the last day but one", x.book(0, 0), 9998);
+        check.due("who", x.book(0, 1), 6);
+        check.due("how much", x.book(0, 2), 99);
     }
 
     private static void foretold() {
@@ -208,6 +227,8 @@ public final class AsksTest {
         x.lose(1);
         x.lose(2);
         check.due("lost ones neither", x.richest(), -1);
+        x.bargain(0, 2, 1, 0, 0);
+        check.due("a little is enough", x.richest(), 2);
     }
 
     private static void grownAndWhoseLaw() {
@@ -235,6 +256,10 @@ public final class AsksTest {
         x.grown(-1, 0);
         x.grown(0, 9);
         check.due("9 at most", x.whoseLaw(), 8);
+        check.due("by 0", x.grown(0, 0), 2);
+        check.due("not by both", x.whoseLaw(), 0);
+        x.grown(-1, 0);
+        x.grown(0, 9);
         x.grown(1, 1);
         check.due("none", x.whoseLaw(), 0);
         x.undo();

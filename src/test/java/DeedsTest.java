@@ -147,6 +147,10 @@ public final class DeedsTest {
         check.due("4 more", x.of(2, 1), 4);
         check.due("it is pawned", x.ofGlove(1, 6), 3);
         check.due("twice", x.pledge(1), -1);
+        x.bargain(0, 2, 2, 0, 0);
+        check.due("for 1", x.pledge(3), 1);
+        x.undo();
+        x.undo();
         x.redeem(1);
         x.lose(1);
         check.due("a lost one", x.pledge(1), -1);
@@ -284,6 +288,8 @@ public final class DeedsTest {
         check.due("people", x.about(0), 3);
         check.due("WORK", x.ofGlove(0, 2), 7);
         check.due("SIZE", x.ofGlove(0, 5), 5);
+        check.due("LEATHER", x.ofGlove(0, 3), 1);
+        check.due("MARK", x.ofGlove(0, 4), 2);
         check.due("passed on", x.ofGlove(0, 1), 2);
         check.due("lost", x.ofGlove(0, 6), 2);
         check.due("DAY", x.is(0), 2);
@@ -363,6 +369,18 @@ public final class DeedsTest {
         x.redeem(0);
         x.winters(16, 1);
         check.due("lost by 171", x.ofGlove(0, 6), 2);
+        // seed 8: x 155 is 1 mod 7: 1 + 155 mod 9 = 3 hours; seed 3: x 145 is 5 mod 7, seed 0: x 139 is 6: days
+        x.find(0, 1);
+        x.winters(8, 1);
+        check.due("three hours of four", x.ofGlove(0, 2), 1);
+        check.due("5 is a day", x.winters(3, 1), 2);
+        check.due("6 is a day", x.winters(0, 1), 3);
+        // seed 25: x 189 is 0 mod 7: from 189 mod 4 = 1, by 27 mod 4 = 3
+        x.winters(25, 1);
+        int[] other = {1, 3, 10, 0, 9, 7, 0};
+        for (int what = 0; what < other.length; what++) {
+            check.due("drawn ofGlove(1, " + what + ")", x.ofGlove(1, what), other[what]);
+        }
     }
 
     private static void undoes() {
@@ -423,6 +441,23 @@ public final class DeedsTest {
         check.due("her coins as told", x.of(2, 1), 40);
         check.due("her cold as told", x.of(2, 2), 0);
         check.due("his coins as ahead", x.of(0, 1), 20);
+        check.due("his cold as ahead", x.of(0, 2), 0);
+        LeftGlove y = new LeftGlove();
+        check.due("a day of nobody", y.day(1), 9);
+        y.one(8, 80);
+        y.one(9, 90);
+        y.day(2);
+        check.due("both are cold", y.of(0, 2) + y.of(1, 2), 2 * (18 + 2));
+        y.undo();
+        check.due("less so", y.of(1, 2), 18);
+        y.undo();
+        check.due("taken back to nobody", y.undo(), 0);
+        check.due("DAY", y.is(0), 0);
+        check.due("two are told", y.about(0), 2);
+        check.due("the hand of 0", y.of(0, 0), 8);
+        check.due("the coins of 0", y.of(0, 1), 80);
+        check.due("the coins of 1", y.of(1, 1), 90);
+        check.due("the cold of 1", y.of(1, 2), 0);
     }
 
     private static void undoesThirtyAtMost() {

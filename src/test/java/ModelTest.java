@@ -90,7 +90,7 @@ public final class ModelTest {
 
     private void call() {
         int way = random.nextInt(100);
-        if (way < 8 && m.about(0) < 7 || m.about(0) < 2) {
+        if (way < 8 && m.about(0) < 7 || m.about(0) < 2 && random.nextInt(3) == 0) {
             int hand = in(1, 9);
             int coins = random.nextInt(3) == 0 ? in(0, 9999) : in(0, 60);
             said("one(" + hand + "," + coins + ")", x.one(hand, coins), m.one(hand, coins));
@@ -242,7 +242,7 @@ public final class ModelTest {
                 said("test(" + test + ")", x.test(test), m.test(test));
                 return;
             case 4:
-                int set = in(1, (1 << m.about(0)) - 1);
+                int set = in(1, Math.max(1, (1 << m.about(0)) - 1));
                 said("tries(" + set + "," + b + ")", x.tries(set, b), m.tries(set, b));
                 return;
             case 5: case 6:

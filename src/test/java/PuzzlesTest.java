@@ -75,6 +75,14 @@ public final class PuzzlesTest {
             x.price(glove, 0);
         }
         order(x, 0, 0, 2, 4);
+        LeftGlove y = Check.people(5, 20, 7, 3);
+        for (int glove = 0; glove < 12; glove++) {
+            y.bargain(0, 1, 1, 0, 0);
+        }
+        // every price is 1 at first: 1 + 2 + .. + 12
+        order(y, 0, 78, 0, 1, 2, 3, 4, 5, 6, 7, 8, 9, 10, 11);
+        y.price(11, 2);
+        order(y, 0, 79, 11, 0, 1, 2, 3, 4, 5, 6, 7, 8, 9, 10);
     }
 
     private static void whose() {
@@ -84,6 +92,8 @@ public final class PuzzlesTest {
         check.due("on both sides", x.whose(5, 1), 6);
         check.due("by three", x.whose(4, 3), 7);
         check.due("all", x.whose(9, 8), 15);
+        check.due("size 1", x.whose(1, 0), 1);
+        check.due("size 9", x.whose(9, 0), 8);
         check.due("size 0", x.whose(0, 1), -1);
         check.due("size 10", x.whose(10, 1), -1);
         check.due("t -1", x.whose(5, -1), -1);
@@ -190,6 +200,10 @@ public final class PuzzlesTest {
         LeftGlove y = Check.people(1, 0, 2, 0, 3, 0, 4, 0, 5, 0, 6, 0, 7, 0);
         check.due("six and one", y.unrest(6, -1, -1, -1, -1, -1, 6), 0);
         check.due("the far one has it", y.unrest(6, 6, -1, -1, -1, -1, -1), 5);
+        check.due("the second has it", y.unrest(6, -1, 6, -1, -1, -1, -1), 4);
+        check.due("the third has it", y.unrest(6, -1, -1, 6, -1, -1, -1), 3);
+        check.due("the fourth has it", y.unrest(6, -1, -1, -1, 6, -1, -1), 2);
+        check.due("the fifth has it", y.unrest(6, -1, -1, -1, -1, 6, -1), 1);
         check.due("the sixth of the row counts", y.unrest(6, 6, -1, -1, -1, -1, 6), -1);
         check.due("behind m it doesn't", y.unrest(5, 6, 5, -1, -1, -1, 6), y.unrest(5, 6, 5, -1, -1, -1, -1));
     }
@@ -285,6 +299,11 @@ public final class PuzzlesTest {
         check.due("the highest", y.auction(0, false), 3);
         check.due("pays the second", y.auction(0, true), 7);
         check.due("nothing is changed", y.of(3, 1), 9);
+        LeftGlove z = Check.people(5, 1, 7, 0, 5, 2);
+        z.bargain(0, 1, 99, 0, 9);
+        z.lose(0);
+        check.due("two coins win", z.auction(0, false), 2);
+        check.due("one coin is a bid", z.auction(0, true), 1);
     }
 
     private static void chests() {

@@ -124,6 +124,15 @@ public final class TellingTest {
         fault("Chill 1;", 1, 0);
         fault("chills 1;", 1, 0);
         fault("chil 1;", 1, 0);
+        fault("chillA 1;", 1, 0);
+        fault("chillZ 1;", 1, 0);
+        fault("chill@1;", 1, 5);
+        fault("chill[1;", 1, 5);
+        fault("chill`1;", 1, 5);
+        fault("chill{1;", 1, 5);
+        fault("chill 1:", 1, 7);
+        fault("chill a;", 1, 6);
+        fault("chill z;", 1, 6);
         fault("\t", 1, 0);
         fault(" ;", 1, 1);
         fault("chill 1\r;", 1, 7);
@@ -176,6 +185,8 @@ public final class TellingTest {
         fault("owe 0 to 1 work 1 leather 3 mark 0;", 2, 26);
         fault("owe 0 to 1 work 1 leather 0 mark 10;", 2, 33);
         whole("owe 6 to 6 work 99 leather 2 mark 9;");
+        whole("owe 0 to 0 work 1 leather 0 mark 0;do 0 hours 1;pass 0 to 0;lose 0;pledge 0;redeem 0;day 1;");
+        whole("one 1 coins 0;");
         fault("do 12 hours 1;", 2, 3);
         fault("do 0 hours 0;", 2, 11);
         fault("do 0 hours 10;", 2, 11);
@@ -201,6 +212,7 @@ public final class TellingTest {
         fault("chill ((((((( common (1) with 2 )))))));", 3, 21);
         fault("chill ((((((( common 1 with (2) )))))));", 3, 28);
         whole("chill (((((((common 1 with 2+(3))))))));");
+        whole("chill (((((( common (1) with (2) ))))));");
         whole("chill if 1<2 then (((((((1))))))) else (((((((1))))))) end;");
         fault("chill if 1<2 then 1 else ((((((((1)))))))) end;", 3, 32);
         // what can't stand there can't stand there, however deep
