@@ -1620,7 +1620,7 @@ public final class LeftGlove {
     /** What laws amount to, and what is done by them. */
     private static final class Law {
         static final int BOUND = 1000000;
-        // Eight openings of at most six waiting numbers each, and those of the clause itself.
+        // Eight openings of at most five waiting numbers each, two of the clause itself and the last one: 43.
         static final int STACK = 64;
         static final int WEEK = 7;
 

@@ -8,6 +8,7 @@ public final class LawTest {
         common();
         lefts();
         choices();
+        deepest();
         namesOfPeople();
         namesOfGloves();
         limits();
@@ -115,6 +116,15 @@ public final class LawTest {
         pawn("if 1=2 then 1 else if 1=2 then 2 else if 1=1 then 3 else 4 end end end", 3);
         pawn("if 1=1 then if 1=2 then 1 else 2 end else 3 end", 2);
         pawn("if 1+1=4-2 then 3 else 4 end", 3);
+    }
+
+    /** As many numbers wait for one another as a text can make wait. */
+    private static void deepest() {
+        pawn("1+1*" + "if1=2or1=1and1<1+1*".repeat(8) + "1" + "then1else0end ".repeat(8) + "+40", 42);
+        pawn("1+1*" + "if1=2or1=1and2<1+1*".repeat(8) + "1" + "then1else0end ".repeat(8) + "+40", 41);
+        pawn("1+1*(1+1*(1+1*(1+1*(1+1*(1+1*(1+1*(1+1*(7))))))))", 15);
+        pawn("common 8 with common 8 with common 8 with common 8 with common 8 with common 8 with common 8 with "
+            + "common 8 with 4", 4);
     }
 
     private static void namesOfPeople() {
