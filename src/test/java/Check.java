@@ -1,7 +1,16 @@
 import java.nio.charset.StandardCharsets;
+import java.util.function.Supplier;
 
 /** Counts answers that aren't as due, and tells texts to a LeftGlove. */
 final class Check {
+    interface Call {
+        long on(LeftGlove x);
+    }
+
+    interface Deed {
+        boolean on(LeftGlove x);
+    }
+
     private int wrong;
     private int asked;
 
@@ -17,8 +26,24 @@ final class Check {
         due(call, got ? 1 : 0, want ? 1 : 0);
     }
 
-    int wrong() {
-        return wrong;
+    void same(String name, String got, String want) {
+        asked++;
+        if (!got.equals(want)) {
+            wrong++;
+            System.out.println(name + " shows\n" + got + "\ndue is\n" + want);
+        }
+    }
+
+    /** What the call answers; and all that is shown behind it is as it is without the call. */
+    void idle(String name, Supplier<LeftGlove> made, Call call, long due) {
+        LeftGlove x = made.get();
+        due(name, call.on(x), due);
+        same(name + " changes something:", Shown.of(x), Shown.of(made.get()));
+    }
+
+    /** A deed that is answered by false, and changes nothing. */
+    void isRefused(String name, Supplier<LeftGlove> made, Deed deed) {
+        idle(name, made, x -> deed.on(x) ? 1 : 0, 0);
     }
 
     void close(String name) {
