@@ -25,6 +25,7 @@ public final class BoundsAsksTest {
         promise46And47Image();
         promise47Full();
         promise47TapeAndFault();
+        promise47WhatIsTold();
         check.close("BoundsAsksTest");
     }
 
@@ -378,7 +379,9 @@ public final class BoundsAsksTest {
         check.idle("41: if there are 8", BoundsAsksTest::eightGrown, y -> y.grown(0, 2), -2);
         LeftGlove y = eightGrown();
         check.due("41: none any more of 8", y.grown(-1, 5), 0);
-        check.due("41: room again", y.grown(0, 2), 1);
+        check.due("41: nothing told, all are so", y.whoseLaw(), 1);
+        check.due("41: room again", y.grown(0, 1), 1);
+        check.due("41: just this is told", y.whoseLaw(), 1);
         check.due("41: none of none", Scenes.three().grown(-1, 0), 0);
         check.due("41: telling is no STEP", y.about(3), 12);
     }
@@ -606,5 +609,48 @@ public final class BoundsAsksTest {
         x.back();
         check.due("47: no FAULT again", x.fault(0), 0);
         check.due("47: one TEXT", x.about(1), 1);
+    }
+
+    /** Each of what is told two by two, or in a row, is as it was, though as many others were told since. */
+    private static void promise47WhatIsTold() {
+        LeftGlove x = Scenes.twelveGloves();
+        Check.text(x, "grows 2;");
+        x.price(0, 2);
+        x.price(11, 3);
+        x.test(1);
+        x.test(2);
+        x.claim(100);
+        x.claim(200);
+        x.chest(5, 0);
+        x.chest(7, 2);
+        x.grown(0, 2);
+        x.image();
+        int cost = x.order(0, -1) + x.order(2, -1);
+        x.test(-1);
+        x.claim(-1);
+        x.chest(-1, 0);
+        x.grown(-1, 0);
+        x.price(0, 9);
+        x.price(11, 9);
+        x.test(0);
+        x.test(0);
+        x.claim(9);
+        x.claim(0);
+        x.chest(6, 1);
+        x.chest(7, 0);
+        x.grown(3, 5);
+        check.due("47: none is so", x.whoseLaw(), 0);
+        check.due("47: other ways", x.lives(-1), 2);
+        check.due("47: not to be told apart", x.tries(7, false), -2);
+        x.back();
+        check.due("47: PRICES", x.order(0, -1) + x.order(2, -1), cost);
+        check.due("47: TESTS", x.tries(7, false), 2);
+        check.due("47: CLAIMS", x.estate(300, 0, false) + x.estate(300, 1, false), 300);
+        // hands 5 7 6: 5 by 0 is the first, 7 by 2 one of the others
+        check.due("47: CHESTS, sizes and slacks", x.lives(-1), 2);
+        check.due("47: sure", x.lives(0), 0);
+        check.due("47: not sure", x.lives(1), -1);
+        check.due("47: GROWN, gloves and by how much", x.whoseLaw(), 1);
+        check.due("47: one of them", x.about(7), 1);
     }
 }

@@ -8,6 +8,7 @@ public final class BoundsDeedsTest {
     public static void main(String[] args) {
         promise8Bargain();
         promise8TwelveAtMost();
+        promise8TwelveUnlike();
         promise9Work();
         promise10Pass();
         promise11Lose();
@@ -26,11 +27,13 @@ public final class BoundsDeedsTest {
         promise16Days();
         promise17Winters();
         promise17WhatThereAreNoneOf();
+        promise17DrawnDeeds();
         promise17ManyDraws();
         promise17IsOneStep();
         promise18None();
         promise18EachKindOfStep();
         promise18ThirtyAtMost();
+        promise18RefusedAtThirty();
         promise18PeopleToldSince();
         promise18Book();
         check.close("BoundsDeedsTest");
@@ -85,6 +88,42 @@ public final class BoundsDeedsTest {
         x.undo();
         check.due("8: one that is taken back is not", x.bargain(2, 1, 9, 0, 0), 11);
         check.due("8: it is the new one", x.ofGlove(11, 0), 2);
+    }
+
+    /** Twelve gloves with something of their own each, seven people and a full book stay apart. */
+    private static void promise8TwelveUnlike() {
+        LeftGlove x = Scenes.sevenPeople();
+        int[][] due = new int[12][];
+        for (int g = 0; g < 12; g++) {
+            due[g] = new int[] {g % 7, (g * 3 + 1) % 7 == g % 7 ? (g + 1) % 7 : (g * 3 + 1) % 7, 99 - g, (g + 2) % 3, 9 - g % 10,
+                g % 7 + 1, g % 4};
+            x.bargain(due[g][0], due[g][1], 99 - g, due[g][3], due[g][4]);
+        }
+        for (int g = 0; g < 12; g++) {
+            if (due[g][6] == 1) {
+                for (int i = 0; i < 11; i++) {
+                    x.work(g, 9);
+                }
+                due[g][2] = 0;
+            } else if (due[g][6] == 2) {
+                x.lose(g);
+            } else if (due[g][6] == 3) {
+                x.pledge(g);
+            }
+        }
+        Check.text(x, "grows 0;fine 1;");
+        x.by(0);
+        x.day(12);
+        check.due("8: a full book", x.book(-1, 0), 30);
+        for (int g = 0; g < 12; g++) {
+            for (int what = 0; what < due[g].length; what++) {
+                check.due("8: ofGlove(" + g + ", " + what + ")", x.ofGlove(g, what), due[g][what]);
+            }
+        }
+        for (int one = 0; one < 7; one++) {
+            check.due("8: HAND of " + one, x.of(one, 0), one + 1);
+        }
+        check.due("8: the last fine", x.book(29, 0), 11);
     }
 
     private static void promise9Work() {
@@ -441,6 +480,16 @@ public final class BoundsDeedsTest {
         Check.text(x, "chill 1;fine 1;grows 1;pawn 1;day 1;lose 0;day 1;");
         check.due("16: laws count, too", x.played(3), 5);
         check.due("16: DAY", x.is(0), 24);
+        LeftGlove y = Scenes.three();
+        Check.text(y, "day 1;".repeat(23) + "one 7 coins 88;");
+        check.due("16: all 24 are done", y.played(0), -1);
+        check.due("16: the last with its own numbers", y.of(3, 0) + 10 * y.of(3, 1), 887);
+        Check.text(y, "owe 3 to 1 work 98 leather 1 mark 9;");
+        check.due("16: the first", y.played(1), -1);
+        int[] owe = {3, 1, 98, 1, 9, 7, 0};
+        for (int what = 0; what < owe.length; what++) {
+            check.due("16: with its own numbers", y.ofGlove(0, what), owe[what]);
+        }
     }
 
     private static void cannotBe(String clause) {
@@ -593,6 +642,40 @@ public final class BoundsDeedsTest {
         check.due("17: a last DAY can pass", Scenes.onDay(9998).winters(0, 1), 9999);
     }
 
+    /** Each SEED's first draw, of all that fall on 0 or 2 (mod 7): whom it takes, by how many there are. */
+    private static void promise17DrawnDeeds() {
+        for (int seed = 4; seed <= 9999; seed += 7) {
+            int draw = seed * 2 + 139;
+            int people = 2 + seed % 6;
+            int from = draw % people;
+            int by = draw / 7 % people;
+            LeftGlove x = new LeftGlove();
+            for (int one = 0; one < people; one++) {
+                x.one(one + 1, 0);
+            }
+            x.winters(seed, 1);
+            int[] due = from == by ? new int[] {-1, -1, -1, -1, -1, -1, -1}
+                : new int[] {from, by, 1 + draw % 20, draw % 3, draw % 10, from + 1, 0};
+            for (int what = 0; what < due.length; what++) {
+                check.due("17: BARGAINED by seed " + seed + ", " + what, x.ofGlove(0, what), due[what]);
+            }
+        }
+        for (int seed = 5; seed <= 9999; seed += 7) {
+            int draw = seed * 2 + 139;
+            int gloves = 1 + seed % 5;
+            LeftGlove x = Scenes.sevenPeople();
+            for (int glove = 0; glove < gloves; glove++) {
+                x.bargain(0, 1, 9, 0, 0);
+            }
+            x.winters(seed, 1);
+            int to = draw / 5 % 7;
+            for (int glove = 0; glove < gloves; glove++) {
+                int holder = glove == draw % gloves && to > 0 ? to : 1;
+                check.due("17: PASSED by seed " + seed + ", " + glove, x.ofGlove(glove, 1), holder);
+            }
+        }
+    }
+
     private static void promise17ManyDraws() {
         // One alone has no gloves: what is drawn is days or nothing.
         for (int n = 1; n <= 40; n++) {
@@ -700,6 +783,29 @@ public final class BoundsDeedsTest {
             check.due("18: DAY", x.is(0), 14 + i);
         }
         check.due("18: no more", x.undo(), -1);
+    }
+
+    /** What is refused where 30 can be taken back leaves all thirty as they are, the eldest too. */
+    private static void promise18RefusedAtThirty() {
+        LeftGlove x = Scenes.three();
+        x.bargain(0, 1, 99, 0, 0);
+        x.day(40);
+        check.due("18: 30", x.about(3), 30);
+        check.due("18: refused", x.bargain(0, 0, 1, 0, 0), -1);
+        check.due("18: refused", x.work(0, 10), -1);
+        check.due("18: refused", x.pass(0, 0), false);
+        check.due("18: refused", x.lose(1), false);
+        check.due("18: refused", x.find(0, 1), false);
+        check.due("18: refused", x.pledge(1), -1);
+        check.due("18: refused", x.redeem(0), -1);
+        check.due("18: refused", x.day(61), -1);
+        check.due("18: refused", x.winters(0, 41), -1);
+        for (int i = 29; i >= 0; i--) {
+            check.due("18: how many can be yet", x.undo(), i);
+            check.due("18: DAY", x.is(0), 10 + i);
+        }
+        check.due("18: COINS as ahead of the eldest", x.of(0, 1), 10);
+        check.due("18: BOOK as ahead of the eldest", x.book(-1, 0), 10);
     }
 
     private static void promise18PeopleToldSince() {

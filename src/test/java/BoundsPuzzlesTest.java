@@ -152,6 +152,11 @@ public final class BoundsPuzzlesTest {
         check.due("29: the eighth is asked, too", y.tries(96, true), 7);
         y.test(-1);
         check.due("29: none parts them any more", y.tries(96, true), -2);
+        LeftGlove z = testing(2, 1, 1, 1, 1, 1, 1, 1, 1);
+        z.test(-1);
+        check.due("29: not the first either", z.tries(3, false), -2);
+        z.test(0);
+        check.due("29: nor the second", z.tries(3, false), -2);
     }
 
     private static LeftGlove testing(int people, int... tests) {
@@ -328,6 +333,8 @@ public final class BoundsPuzzlesTest {
         check.due("33: nothing to share", x.estate(5, 0, false), -1);
         check.due("33: room again", x.claim(7), 1);
         check.due("33: the new one", x.estate(9, 0, false), 7);
+        check.due("33: whole, as the others are gone", x.estate(9, 0, true), 1);
+        check.due("33: half of it", x.estate(3, 0, false) * 10 + x.estate(3, 0, true), 31);
     }
 
     private static void share(int e, int k, int upper, int lower, int... claims) {

@@ -26,6 +26,7 @@ public final class BoundsTextsTest {
         commonNumbers();
         leftsOfNobody();
         bareHands();
+        namesAtTheirEnds();
         chosenSums();
         lawsAtTheirEnds();
         lawsThatAreNotTold();
@@ -191,6 +192,12 @@ public final class BoundsTextsTest {
         fault("grows common 1;", 1, 14);
         fault("grows if 1 then 1 else 2 end;", 1, 11);
         fault("grows if (1<2) then 1 else 2 end;", 1, 11);
+        for (String sign : new String[] {";", ")", "(", "1", "not", "with", "end", "else", "to"}) {
+            fault("grows if 1 " + sign + " 2 then 1 else 2 end;", 1, 11);
+            fault("grows if 1 < 2 " + sign + " 2 end;", 1, 15);
+        }
+        fault("grows if 1 < 2 then 2 end;", 1, 22);
+        fault("grows if 1 < 2 or 2 end;", 1, 20);
         fault("grows if 1<2 or then 1 else 2 end;", 1, 16);
         fault("grows if 1<2 not 1<2 then 1 else 2 end;", 1, 13);
         fault("grows if 1<2<3 then 1 else 2 end;", 1, 12);
@@ -455,6 +462,55 @@ public final class BoundsTextsTest {
         y.lose(0);
         check.due("a lost one is neither", y.of(0, 6), 2);
         check.due("for either", y.of(1, 6), 1);
+        LeftGlove z = Check.people(4, 0, 5, 0, 6, 0, 7, 0);
+        Check.text(z, "fine bare;");
+        z.by(0);
+        for (int i = 0; i < 10; i++) {
+            z.bargain(0, 1, 9, 0, 0);
+        }
+        z.bargain(2, 1, 9, 0, 0);
+        check.due("the eleventh is a right", z.of(2, 6), 1);
+        check.due("none is of the fourth", z.of(3, 6), 2);
+        z.bargain(3, 2, 9, 0, 0);
+        check.due("the twelfth is a right", z.of(3, 6), 1);
+        check.due("and a left", z.of(2, 6), 0);
+    }
+
+    /** Each name at the least and at the most that it can be. */
+    private static void namesAtTheirEnds() {
+        LeftGlove x = Check.people(1, 0, 9, 9999, 5, 5, 5, 5, 5, 5, 5, 5, 5, 5);
+        x.bargain(0, 6, 1, 0, 0);
+        x.bargain(6, 0, 99, 2, 9);
+        String[] ofPeople = {"who", "hand", "coins/101", "cold", "rights", "bare", "day", "frost"};
+        int[][] people = {{0, 6}, {1, 5}, {0, 0}, {0, 0}, {1, 1}, {0, 0}, {0, 0}, {0, 0}};
+        String[] ofGloves = {"work", "leather", "size", "mark", "from", "by", "day", "frost"};
+        int[][] gloves = {{1, 99}, {0, 2}, {1, 5}, {0, 9}, {0, 6}, {6, 0}, {0, 0}, {0, 0}};
+        for (int i = 0; i < 8; i++) {
+            x.image();
+            Check.text(x, "fine " + ofPeople[i] + ";pawn " + ofGloves[i] + ";");
+            x.by(0);
+            check.due(ofPeople[i] + " of 0", x.of(0, 6), people[i][0]);
+            check.due(ofPeople[i] + " of 6", x.of(6, 6), people[i][1]);
+            check.due(ofGloves[i] + " of glove 0", x.ofGlove(0, 8), gloves[i][0]);
+            check.due(ofGloves[i] + " of glove 1", x.ofGlove(1, 8), gloves[i][1]);
+            x.back();
+        }
+        Check.text(x, "fine coins-9900;chill hand;");
+        x.by(0);
+        check.due("coins of 9999", x.of(1, 6), 99);
+        check.due("hand of 9", x.of(1, 5), 9);
+        LeftGlove y = Scenes.onDay(9999);
+        Check.text(y, "fine day-9900;chill frost*9+1;pawn day-9992;");
+        y.by(2);
+        check.due("day of 9999", y.of(0, 6), 99);
+        check.due("frost", y.of(0, 5), y.is(1) * 9 + 1);
+        check.due("day of 9999 for gloves", y.ofGlove(0, 8), 7);
+        LeftGlove z = Check.people(5, 0);
+        Check.text(z, "chill 99;fine cold-9900;");
+        z.by(0);
+        z.day(60);
+        z.day(60);
+        check.due("cold of 9999", z.of(0, 6), 99);
     }
 
     private static void chosenSums() {
