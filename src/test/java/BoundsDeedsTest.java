@@ -642,8 +642,18 @@ public final class BoundsDeedsTest {
         check.due("17: a last DAY can pass", Scenes.onDay(9998).winters(0, 1), 9999);
     }
 
-    /** Each SEED's first draw, of all that fall on 0 or 2 (mod 7): whom it takes, by how many there are. */
+    /** Each SEED's first draw: 0 to 4 (mod 7) in turn, whom or which it takes, by how many there are. */
     private static void promise17DrawnDeeds() {
+        drawnBargains();
+        for (int seed = 0; seed <= 9999; seed++) {
+            int draw = seed * 2 + 139;
+            if (draw % 7 > 0 && draw % 7 < 5) {
+                drawnOnGloves(seed, draw, 1 + seed % 5);
+            }
+        }
+    }
+
+    private static void drawnBargains() {
         for (int seed = 4; seed <= 9999; seed += 7) {
             int draw = seed * 2 + 139;
             int people = 2 + seed % 6;
@@ -660,20 +670,24 @@ public final class BoundsDeedsTest {
                 check.due("17: BARGAINED by seed " + seed + ", " + what, x.ofGlove(0, what), due[what]);
             }
         }
-        for (int seed = 5; seed <= 9999; seed += 7) {
-            int draw = seed * 2 + 139;
-            int gloves = 1 + seed % 5;
-            LeftGlove x = Scenes.sevenPeople();
-            for (int glove = 0; glove < gloves; glove++) {
-                x.bargain(0, 1, 9, 0, 0);
-            }
-            x.winters(seed, 1);
-            int to = draw / 5 % 7;
-            for (int glove = 0; glove < gloves; glove++) {
-                int holder = glove == draw % gloves && to > 0 ? to : 1;
-                check.due("17: PASSED by seed " + seed + ", " + glove, x.ofGlove(glove, 1), holder);
-            }
+    }
+
+    private static void drawnOnGloves(int seed, int draw, int gloves) {
+        LeftGlove x = Scenes.sevenPeople();
+        for (int glove = 0; glove < gloves; glove++) {
+            x.bargain(0, 1, 9, 0, 0);
         }
+        x.winters(seed, 1);
+        int to = draw / 5 % 7;
+        for (int glove = 0; glove < gloves; glove++) {
+            int deed = glove == draw % gloves ? draw % 7 : 0;
+            int work = deed == 1 ? 8 - draw % 9 : 9;
+            int how = work == 0 ? 1 : deed == 3 && draw % 3 == 0 ? 2 : deed == 4 ? 3 : 0;
+            check.due("17: WORK by seed " + seed + ", " + glove, x.ofGlove(glove, 2), work);
+            check.due("17: how it is by seed " + seed + ", " + glove, x.ofGlove(glove, 6), how);
+            check.due("17: HELD by seed " + seed + ", " + glove, x.ofGlove(glove, 1), deed == 2 && to > 0 ? to : 1);
+        }
+        check.due("17: COINS by seed " + seed, x.of(1, 1), draw % 7 == 4 ? 14 : 10);
     }
 
     private static void promise17ManyDraws() {

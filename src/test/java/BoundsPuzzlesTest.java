@@ -49,6 +49,11 @@ public final class BoundsPuzzlesTest {
         check.due("26: 9 goes first", x.order(0, 0), 11);
         check.due("26: 0 goes last", x.order(0, 11), 0);
         check.due("26: telling is no STEP", x.about(3), 12);
+        LeftGlove y = Check.people(5, 0, 6, 0);
+        for (int i = 0; i < 12; i++) {
+            y.bargain(0, 1, 1, 0, 0);
+        }
+        check.due("26: at first 1 each", y.order(0, -1), 78);
         check.due("26: told anew", x.price(0, 9), true);
         check.due("26: like ones, the lowest first", x.order(0, 0), 0);
     }
@@ -261,6 +266,13 @@ public final class BoundsPuzzlesTest {
         wed(2, new int[] {3, 5, 5, 9}, 3, 2, 1, 0);
         wed(3, new int[] {3, 4, 5, 5, 9, 9}, 5, 4, 3, 2, 1, 0);
         wed(3, new int[] {1, 2, 3, 3, 9}, -1, 4, 3, 2, 1);
+        LeftGlove x = hands(3, 5, 5, 9);
+        for (int i = 0; i < 3; i++) {
+            check.due("31: asked again", x.weds(2, 0), 3);
+            check.due("31: with others", x.weds(1, 0), 1);
+            check.due("31: and with others", x.weds(3, 2), -1);
+            check.due("31: of a row", x.unrest(2, 2, 3, 0, 0, 0, 0), 1);
+        }
         // more of the others than who ask
         wed(2, new int[] {1, 9, 9, 1, 5, 5, 5}, 3, 2, 1, 0, -1, -1, -1);
     }
@@ -505,6 +517,8 @@ public final class BoundsPuzzlesTest {
         check.idle("37: none for nobody", () -> Scenes.chest(new int[0], 5, 8), x -> x.lives(-1), 0);
         check.idle("37: nobody's is not sure", () -> Scenes.chest(new int[0], 5, 8), x -> x.lives(0), -1);
         check.idle("37: two lefts for one", () -> Scenes.chest(new int[] {5}, 5, 0, 5, 0), x -> x.lives(-1), 0);
+        check.idle("37: no way, none is sure", () -> Scenes.chest(new int[] {5}, 5, 0, 5, 0), x -> x.lives(0), -1);
+        check.idle("37: nor the other", () -> Scenes.chest(new int[] {5}, 5, 0, 5, 0), x -> x.lives(1), -1);
         check.idle("37: one for one", () -> Scenes.chest(new int[] {5}, 5, 0), x -> x.lives(0), 0);
         check.idle("37: t just enough", () -> Scenes.chest(new int[] {1, 1}, 9, 8), x -> x.lives(-1), 2);
         check.idle("37: t one too few", () -> Scenes.chest(new int[] {1, 1}, 9, 7), x -> x.lives(-1), 0);
@@ -561,5 +575,12 @@ public final class BoundsPuzzlesTest {
         odds(5, 5, 8, 0, 1, 256);
         odds(5, 5, 8, 8, 1, 256);
         odds(5, 5, 8, 4, 35, 128);
+        LeftGlove x = new LeftGlove();
+        for (int i = 0; i < 3; i++) {
+            check.due("38: eight cold ones", x.frosts(10, 10, 8, 8, false), 1);
+            check.due("38: asked behind it", x.frosts(5, 5, 8, 8, true), 256);
+            check.due("38: of one day", x.frosts(5, 3, 1, 1, false), 3);
+            check.due("38: of mild ones", x.frosts(5, 0, 8, 0, true), 1);
+        }
     }
 }

@@ -525,6 +525,9 @@ public final class BoundsTextsTest {
         pawn("if 1=1 then 1 else 2 end", 1);
         pawn("if 1#1 then 1 else 2 end", 2);
         pawn("if -1<0 then 1 else 2 end", 1);
+        pawn("10+if 1<2 then 3 else 4 end*2", 16);
+        pawn("10+if 2<1 then 3 else 4 end*2", 18);
+        pawn("10-if 1<2 then if 2<1 then 3 else 4 end else 5 end", 6);
         // or and and, with each side so and not so; and binds closer, not closest
         String[] sides = {"1=2", "1=1"};
         for (int a = 0; a < 2; a++) {
