@@ -16,46 +16,53 @@ import java.util.regex.Pattern;
 /** The face of the document and those rules of LANGUAGE.md that can be seen from the source or the classes. */
 public final class RulesTest {
     private static final String SOURCE = "src/main/java/LeftGlove.java";
-    private static final String[] FACE = {"about(int)", "auction(int,boolean)", "back()", "bargain(int,int,int,int,int)",
-        "book(int,int)", "by(int)", "chest(int,int)", "claim(int)", "coldest()", "day(int)", "end(int)",
-        "estate(int,int,boolean)", "fault(int)", "feed(int,int,int,int,int)", "find(int,int)", "fined(int)",
-        "firstFine(int)", "foretold(int,int,int)", "free()", "frosts(int,int,int,int,boolean)", "grown(int,int)",
-        "image()", "is(int)", "lives(int)", "lose(int)", "of(int,int)", "ofGlove(int,int)", "one(int,int)",
-        "order(int,int)", "pairs()", "pass(int,int)", "played(int)", "pledge(int)", "price(int,int)", "redeem(int)",
-        "richest()", "ring()", "test(int)", "text()", "tries(int,boolean)", "undo()",
-        "unrest(int,int,int,int,int,int,int)", "weds(int,int)", "whose(int,int)", "whoseLaw()", "winters(int,int)",
-        "work(int,int)"};
+    private static final String[] FACE = {"int about(int)", "int auction(int,boolean)", "int back()",
+        "int bargain(int,int,int,int,int)", "int book(int,int)", "boolean by(int)", "int chest(int,int)",
+        "int claim(int)", "int coldest()", "int day(int)", "int end(int)", "int estate(int,int,boolean)",
+        "int fault(int)", "int feed(int,int,int,int,int)", "boolean find(int,int)", "int fined(int)",
+        "int firstFine(int)", "int foretold(int,int,int)", "int free()", "int frosts(int,int,int,int,boolean)",
+        "int grown(int,int)", "int image()", "int is(int)", "int lives(int)", "boolean lose(int)", "int of(int,int)",
+        "int ofGlove(int,int)", "int one(int,int)", "int order(int,int)", "int pairs()", "boolean pass(int,int)",
+        "int played(int)", "int pledge(int)", "boolean price(int,int)", "int redeem(int)", "int richest()",
+        "int ring()", "int test(int)", "int text()", "int tries(int,boolean)", "int undo()",
+        "int unrest(int,int,int,int,int,int,int)", "int weds(int,int)", "int whose(int,int)", "int whoseLaw()",
+        "int winters(int,int)", "int work(int,int)"};
     private static final String[] FORBIDDEN = {"throw", "throws", "try", "catch", "finally", "synchronized", "assert",
         "import", "package", "native", "volatile", "transient", "strictfp", "var", "->", "::", "Object", "Thread",
         "Exact", "double", "float", "@"};
 
     private static final Check check = new Check();
 
-    public static void main(String[] args) throws IOException {
+    public static void main(String[] args) throws IOException, ReflectiveOperationException {
         face();
         classes();
         source(Files.readString(Path.of(SOURCE)));
         check.close("RulesTest");
     }
 
-    private static void face() {
+    private static void face() throws ReflectiveOperationException {
         Set<String> methods = new TreeSet<>();
         for (Method method : LeftGlove.class.getDeclaredMethods()) {
             if (!Modifier.isPrivate(method.getModifiers())) {
-                methods.add(method.toString().replaceAll(".*LeftGlove\\.", ""));
+                methods.add(method.toString().replace("public ", "").replace("LeftGlove.", ""));
                 check.due(method + " is public", Modifier.isPublic(method.getModifiers()), true);
             }
         }
         check.due("the face is " + methods, methods.equals(new TreeSet<>(List.of(FACE))), true);
         check.due("final", Modifier.isFinal(LeftGlove.class.getModifiers()), true);
+        check.due("public", Modifier.isPublic(LeftGlove.class.getModifiers()), true);
         int open = 0;
         for (Field field : LeftGlove.class.getDeclaredFields()) {
             open += Modifier.isPrivate(field.getModifiers()) ? 0 : 1;
         }
         check.due("NONE is the only field to be seen", open, 1);
+        Field none = LeftGlove.class.getDeclaredField("NONE");
+        check.same("NONE", none.toString(), "public static final int LeftGlove.NONE");
+        check.due("NONE", none.getInt(null), -1);
         Constructor<?>[] made = LeftGlove.class.getDeclaredConstructors();
         check.due("one constructor", made.length, 1);
         check.due("without parameters", made[0].getParameterCount(), 0);
+        check.due("public, too", Modifier.isPublic(made[0].getModifiers()), true);
     }
 
     private static void classes() {
